@@ -497,7 +497,7 @@ public final class ActionDigests {
             return kind != other.kind ? kind > other.kind : key.compareWith(other.key) > 0;
         }
 
-        // The body holds all that a row says, its digest too, so no field is looked at twice.
+        // The body holds all that a row says, its digest too, so nothing else needs comparing.
         boolean isLike(Row other) {
             if (kind != other.kind || body.length != other.body.length) {
                 return false;
@@ -558,7 +558,7 @@ public final class ActionDigests {
         }
     }
 
-    /** SHA-256, fed byte by byte; one serves all calls, so that none makes rows of its own. */
+    /** SHA-256, fed byte by byte; one serves all calls, so that none makes arrays of its own. */
     private static final class Sha {
         final int[] sums = new int[SUMS];
         private final int[] words = new int[ROUNDS];
