@@ -1,31 +1,8 @@
 import java.math.BigInteger;
 
 /** The document's promises one by one: ordinary inputs, the edges that it names, wrong inputs. */
-public final class PromisesTest {
-    private static final String FINE = "";
-    private static final String ARGUMENT = "IllegalArgumentException";
-    private static final String STATE = "IllegalStateException";
-    private static final String OF_NONE = "e3b0c44298fc1c149afbf4c8996fb92427ae41e4649b934ca495991b7852b855";
-    private static final String OF_ABC = "ba7816bf8f01cfea414140de5dae2223b00361a396177a9cb410ff61f20015ad";
+public final class PromisesTest extends Cases {
     private static final int[] WRONG = {-1, 1, 11, 12, Integer.MIN_VALUE, Integer.MAX_VALUE};
-
-    private final Check check = new Check();
-
-    private void due(String call, Object got, Object want) {
-        check.due(call, got, want);
-    }
-
-    private static Subject one() {
-        return new Subject().actions(1);
-    }
-
-    private static Subject two() {
-        return new Subject().actions(2);
-    }
-
-    private static String times(int count, String text) {
-        return text.repeat(count);
-    }
 
     private void newObject() {
         Subject x = new Subject();
