@@ -255,8 +255,9 @@ public final class ActionDigests {
     }
 
     private boolean isAllowed(Key name) {
-        for (int i = 0; i < allowedCount; i++) {
-            if (allowed[i].compareWith(name) == 0) {
+        for (int i = 0; i < MOST_ALLOWED; i++) {
+            Key one = allowed[i];
+            if (one != null && one.compareWith(name) == 0) {
                 return true;
             }
         }
@@ -449,7 +450,7 @@ public final class ActionDigests {
 
         Key(char[] characters, int length) {
             this.characters = characters;
-            this.length = length;
+            this.length = Math.min(length, characters.length);
         }
 
         int compareWith(Key other) {
@@ -525,8 +526,9 @@ public final class ActionDigests {
         }
 
         boolean has(int kind, Key key) {
-            for (int i = 0; i < count; i++) {
-                if (ordered[i].kind == kind && ordered[i].key.compareWith(key) == 0) {
+            for (int i = 0; i < MOST_ROWS; i++) {
+                Row row = rowAt(i);
+                if (row != null && row.kind == kind && row.key.compareWith(key) == 0) {
                     return true;
                 }
             }
@@ -539,8 +541,12 @@ public final class ActionDigests {
                 return;
             }
             int place = count;
-            while (place > 0 && ordered[place - 1].isBehind(row)) {
-                ordered[place] = ordered[place - 1];
+            while (place > 0) {
+                Row before = rowAt(place - 1);
+                if (before == null || !before.isBehind(row)) {
+                    break;
+                }
+                ordered[place] = before;
                 place--;
             }
             ordered[place] = row;
@@ -548,8 +554,9 @@ public final class ActionDigests {
         }
 
         boolean replaceEdition(Row edition) {
-            for (int i = 0; i < count; i++) {
-                if (ordered[i].kind == EDITION) {
+            for (int i = 0; i < MOST_ROWS; i++) {
+                Row row = rowAt(i);
+                if (row != null && row.kind == EDITION) {
                     ordered[i] = edition;
                     return true;
                 }
