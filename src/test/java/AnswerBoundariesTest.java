@@ -208,6 +208,29 @@ public final class AnswerBoundariesTest extends Cases {
         }
     }
 
+    /** An ENV that isn't ALLOWED has no place, and is none that one of both hasn't. */
+    private void placesBesideThoseThatDoNotCount() {
+        Subject x = two();
+        x.row(0, 0, "w");
+        x.row(1, 0, "w");
+        for (String name : new String[] {"a", "b", "c"}) {
+            x.row(0, 2, name + "=1");
+        }
+        x.row(1, 2, "b=2");
+        due("14: beside four that don't count", x.differ(0, 1), -1);
+        x.row(0, 6, "s=1");
+        x.row(1, 6, "s=2");
+        due("14: behind four that don't count", x.differ(0, 1), 1);
+        due("14: behind four that don't count, turned round", x.differ(1, 0), 1);
+        x.row(1, 2, "c=1");
+        x.allow("c");
+        due("14: behind one that counts in both", x.differ(0, 1), 2);
+        x.allow("b");
+        due("14: one that is another thing in both", x.differ(0, 1), 1);
+        x.allow("a");
+        due("14: one that one of both hasn't", x.differ(1, 0), 1);
+    }
+
     /** "in KIND, PATH, NAME, WORD, digest, or anything": the least that can differ, in the last place. */
     private void leastDifferences() {
         String[][] pairs = {
@@ -290,6 +313,7 @@ public final class AnswerBoundariesTest extends Cases {
         test.paddedLengths();
         test.placesThatDiffer();
         test.placesThatOneHasNot();
+        test.placesBesideThoseThatDoNotCount();
         test.leastDifferences();
         test.constants();
         test.lastCalls();
